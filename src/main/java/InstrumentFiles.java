@@ -577,9 +577,12 @@ public final class InstrumentFiles {
             return op >= 0 && op <= LISTED;
         }
 
+        static boolean hasByte(int op) {
+            return (op >= INT_ENTRY && op <= STORE) || (op >= GO && op <= CALL) || op == LISTED;
+        }
+
         static int size(int op) {
-            boolean hasByte = (op >= INT_ENTRY && op <= STORE) || (op >= GO && op <= CALL) || op == LISTED;
-            return hasByte ? 2 : 1;
+            return hasByte(op) ? 2 : 1;
         }
 
         static boolean goesOn(int op) {
@@ -620,11 +623,14 @@ public final class InstrumentFiles {
             it.forgetJudgement();
             kinds = it.firstKinds;
             atHand = true;
-            int wrong = 0;
-            for (place = 0; place < it.length; place += Ops.size(it.codeAt(place))) {
-                wrong = judgeOp(program, it);
+            for (int next = 0; next < it.length; next++) {
+                place = next;
+                int wrong = judgeOp(program, it);
                 if (wrong != 0) {
                     return wrong;
+                }
+                if (Ops.hasByte(it.codeAt(next))) {
+                    next++;
                 }
             }
             return judgeMapPlaces(it);
@@ -799,7 +805,8 @@ public final class InstrumentFiles {
         }
 
         void run(Program program, int most) {
-            for (steps = 0; steps < most && depth > 0 && failure == 0; steps++) {
+            for (int begun = 0; begun < most && depth > 0 && failure == 0; begun++) {
+                steps++;
                 runOp(program);
             }
             if (depth > 0 && failure == 0) {

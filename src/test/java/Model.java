@@ -96,6 +96,55 @@ final class Model {
     private long given;
     private int most;
 
+    // ---- the TAPE
+
+    int feed(long w, int n) {
+        if (n < 1 || n > 8) {
+            return -102;
+        }
+        if (tape.size() + n > 500) {
+            return -104;
+        }
+        String digits = String.format("%016x", w);
+        for (int i = 16 - 2 * n; i < 16; i += 2) {
+            tape.add(Integer.parseInt(digits.substring(i, i + 2), 16));
+        }
+        return tape.size();
+    }
+
+    int wipe() {
+        int had = tape.size();
+        tape.clear();
+        return had;
+    }
+
+    int alter(int i, int mask) {
+        if (i < 0 || i >= tape.size()) {
+            return -101;
+        }
+        if (mask < 0 || mask > 255) {
+            return -102;
+        }
+        tape.set(i, tape.get(i) ^ mask);
+        return tape.get(i);
+    }
+
+    int at(int i) {
+        return i < 0 || i >= tape.size() ? -101 : tape.get(i);
+    }
+
+    int seal() {
+        if (tape.isEmpty()) {
+            return -103;
+        }
+        int sum = 0;
+        for (int i = 0; i < tape.size() - 1; i++) {
+            sum += tape.get(i);
+        }
+        tape.set(tape.size() - 1, sum % 256);
+        return sum % 256;
+    }
+
     // ---- reading
 
     private int next(int fault, int low, int high) {
