@@ -1085,11 +1085,11 @@ public final class InstrumentFiles {
             return canonical(bits ^ SIGN);
         }
 
-        private static int scale(long bits) {
+        private static int scaleOf(long bits) {
             return Math.max((int) ((bits & INFINITY) >>> 52), 1);
         }
 
-        private static long digits(long bits) {
+        private static long digitsOf(long bits) {
             long fraction = bits & (HIDDEN - 1);
             return (bits & INFINITY) == 0 ? fraction : fraction | HIDDEN;
         }
@@ -1104,9 +1104,9 @@ public final class InstrumentFiles {
             if (absolute(large) == INFINITY) {
                 return absolute(small) == INFINITY && !alike ? NAN : large;
             }
-            int scale = scale(large);
-            long left = digits(large) << SPARE;
-            long right = shiftedDown(digits(small) << SPARE, scale - scale(small));
+            int scale = scaleOf(large);
+            long left = digitsOf(large) << SPARE;
+            long right = shiftedDown(digitsOf(small) << SPARE, scale - scaleOf(small));
             if (left == right && !alike) {
                 return 0;
             }
@@ -1126,10 +1126,10 @@ public final class InstrumentFiles {
             if (x == 0 || y == 0) {
                 return sign;
             }
-            int shiftX = leadingZeros(digits(x)) - 11;
-            int shiftY = leadingZeros(digits(y)) - 11;
-            long product = productAbove49(digits(x) << shiftX, digits(y) << shiftY);
-            return rounded(sign, scale(x) - shiftX + scale(y) - shiftY - BIAS + 49 + SPARE, product);
+            int shiftX = leadingZeros(digitsOf(x)) - 11;
+            int shiftY = leadingZeros(digitsOf(y)) - 11;
+            long product = productAbove49(digitsOf(x) << shiftX, digitsOf(y) << shiftY);
+            return rounded(sign, scaleOf(x) - shiftX + scaleOf(y) - shiftY - BIAS + 49 + SPARE, product);
         }
 
         /** x y without its 49 lowest bits, of which the last one tells; x and y below 2 to the 53rd. */
@@ -1154,10 +1154,10 @@ public final class InstrumentFiles {
             if (x == 0 || y == INFINITY) {
                 return sign;
             }
-            int shiftX = leadingZeros(digits(x)) - 11;
-            int shiftY = leadingZeros(digits(y)) - 11;
-            long quotient = quotientWith60(digits(x) << shiftX, digits(y) << shiftY);
-            return rounded(sign, scale(x) - shiftX - scale(y) + shiftY + BIAS - 60 + SPARE, quotient);
+            int shiftX = leadingZeros(digitsOf(x)) - 11;
+            int shiftY = leadingZeros(digitsOf(y)) - 11;
+            long quotient = quotientWith60(digitsOf(x) << shiftX, digitsOf(y) << shiftY);
+            return rounded(sign, scaleOf(x) - shiftX - scaleOf(y) + shiftY + BIAS - 60 + SPARE, quotient);
         }
 
         /** x / y with 60 bits more, the last of which tells of a rest; both have 53 bits, so ten fit at a time. */
@@ -1181,10 +1181,10 @@ public final class InstrumentFiles {
             if (isNan(a) || a < 0) {
                 return NAN;
             }
-            int shift = leadingZeros(digits(a)) - 11;
-            int power = scale(a) - shift - BIAS;
+            int shift = leadingZeros(digitsOf(a)) - 11;
+            int power = scaleOf(a) - shift - BIAS;
             int odd = power & 1;
-            long root = rootWith29(digits(a) << (shift + odd));
+            long root = rootWith29(digitsOf(a) << (shift + odd));
             return rounded(0, ((power - odd) >> 1) - 29 + BIAS + SPARE, root);
         }
 
@@ -1241,7 +1241,7 @@ public final class InstrumentFiles {
             if (whole > 30) {
                 return a < 0 ? Integer.MIN_VALUE : Integer.MAX_VALUE;
             }
-            int size = (int) (digits(a) >>> (52 - whole));
+            int size = (int) (digitsOf(a) >>> (52 - whole));
             return a < 0 ? -size : size;
         }
 

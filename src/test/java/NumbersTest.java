@@ -37,6 +37,7 @@ public final class NumbersTest {
         reckoning.edges();
         reckoning.nearEach();
         reckoning.anyBits();
+        reckoning.besideTies();
         new NumbersTest(pairs(7, 8, 9, 10, 17, INT)).ints();
         NumbersTest listed = new NumbersTest(listedFile());
         listed.eachListed();
@@ -141,6 +142,26 @@ public final class NumbersTest {
             }
             pair(Double.longBitsToDouble(a), Double.longBitsToDouble(b));
         }
+    }
+
+    /** Products whose bits below the last kept one are those of a tie and one more, or one less. */
+    private void besideTies() {
+        int asked = 0;
+        for (int i = 0; i < 2000; i++) {
+            long x = (1L << 52) | (next() & ((1L << 52) - 1)) | 1;
+            long inverse = x;
+            for (int round = 0; round < 6; round++) {
+                inverse *= 2 - x * inverse;
+            }
+            long tie = 1L << (51 + (i & 1));
+            long y = inverse * ((i & 2) == 0 ? tie + 1 : tie - 1) & ((1L << (52 + (i & 1))) - 1);
+            if (y >= 1L << 51) {
+                asked++;
+                pair(x, y);
+                pair(-x, y);
+            }
+        }
+        CHECKS.holds("there are such products", asked > 500);
     }
 
     private void ints() {
