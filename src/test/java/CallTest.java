@@ -35,14 +35,8 @@ public final class CallTest {
         }
     }
 
-    /** METHOD 0: x / y; METHOD 1: TABLE x; METHOD 2: itself for ever; METHOD 3: METHOD 0 of x, y; METHOD 4: 6. */
     private static InstrumentFiles five() {
-        return sound(FileRow.of(1).pool(6).word("a").word("b").word("c").word("d").word("e").anInt(6).methods(5)
-            .head(0, I, 2, 2, I, I).code(3, 0, 3, 1, 10, 22).maps(0)
-            .head(1, D, 1, 1, I).code(3, 0, 23, 22).maps(0)
-            .head(2, I, 0, 1).code(0, 21, 2, 22).maps(0)
-            .head(3, I, 2, 2, I, I).code(0, 0, 3, 0, 3, 1, 21, 0, 22).maps(0)
-            .head(4, I, 0, 1).code(1, 5, 22).maps(0));
+        return sound(Samples.five());
     }
 
     private static void refusals() {
@@ -165,7 +159,7 @@ public final class CallTest {
         told(it, SPENT, 14, 2, 0, 8);
         CHECKS.same("13 STEPS", it.call(2, 0, 0, 0, 13), 0);
         told(it, SPENT, 13, 2, 1, 7);
-        InstrumentFiles down = down();
+        InstrumentFiles down = sound(Samples.down());
         for (int n = 0; n < 8; n++) {
             CHECKS.same("down to " + n, down.call(0, n, 0, 0, 1000), 1);
             CHECKS.same("result", down.result(), 10 * n);
@@ -173,14 +167,6 @@ public final class CallTest {
         }
         CHECKS.same("down to 8", down.call(0, 8, 0, 0, 1000), 0);
         told(down, DEEP, 8 * 6, 0, 9, 8);
-    }
-
-    /** n > 0 ? itself of n - 1, and 10 more : 0. */
-    private static InstrumentFiles down() {
-        return sound(FileRow.of(1).pool(4).word("down").anInt(1).anInt(10).anInt(0).methods(1)
-            .head(0, I, 1, 2, I)
-            .code(3, 0, 20, 16, 3, 0, 1, 1, 8, 21, 0, 1, 2, 7, 0, 22, 1, 3, 22)
-            .maps(1).add(16, I, 0));
     }
 
     private static void insideAnother() {

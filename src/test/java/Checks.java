@@ -1,6 +1,7 @@
 /** Counts what was asked and prints what was wrong. */
 final class Checks {
     private final String title;
+    private String because = "";
     private int asked;
     private int wrong;
 
@@ -8,12 +9,18 @@ final class Checks {
         this.title = title;
     }
 
+    /** What is asked from here on is due because of these words of the document. */
+    void about(String where, String words) {
+        because = where + ", '" + words + "': ";
+        holds("the document still says so", Document.says(where, words));
+    }
+
     void same(String call, long got, long due) {
         asked++;
         if (got != due) {
             wrong++;
             if (wrong <= 50) {
-                System.out.println(title + ": " + call + " answered " + got + ", due is " + due);
+                System.out.println(title + ": " + because + call + " answered " + got + ", due is " + due);
             }
         }
     }

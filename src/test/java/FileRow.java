@@ -62,6 +62,16 @@ final class FileRow {
         return add(count);
     }
 
+    /** A METHOD that goes round for ever: sound with any NAME, and without any other entry. */
+    FileRow endless(int name) {
+        return head(name, INT, 0, 1).code(19, 0).maps(1).add(0, 0);
+    }
+
+    FileRow set(int i, int value) {
+        bytes.set(i, value);
+        return this;
+    }
+
     private FileRow big(long value, int size) {
         for (int i = size - 1; i >= 0; i--) {
             add((int) (value >>> (8 * i)) & 255);
