@@ -14,6 +14,7 @@ public final class EdgesOfCallsTest {
         whatWouldBegin();
         aNinthCall();
         callsBehindOneAnother();
+        fullStacksWithinOneAnother();
         deepOrSpent();
         asideAtTheThird();
         asideByZeroAndIndexAlone();
@@ -171,6 +172,27 @@ public final class EdgesOfCallsTest {
         told("ten CALLS, each behind the other", it, 0, 10 + 20 + 9 + 1, 0, -1, 2);
         CHECKS.same("one alone", it.call(1, 0, 0, 0, 1000), 1);
         told("one alone", it, 0, 2, 1, -1, 1);
+    }
+
+    /** Eight CALLS deep, each with a STACK that is full; f(n) = 1 - (2 + (3 - (4 + (5 - f(n - 1))))), and f(0) = 50. */
+    private static void fullStacksWithinOneAnother() {
+        CHECKS.about("Terms 3", "4 DEEP: a ninth CALL within one another would begin (at 21).");
+        FileRow row = FileRow.of(1).pool(7).word("a").anInt(1).anInt(2).anInt(3).anInt(4).anInt(5).anInt(50).methods(1)
+            .head(0, I, 6, 6, I)
+            .code(3, 0, 20, 31, 3, 0, 1, 1, 8, 4, 0, 1, 1, 1, 2, 1, 3, 1, 4, 1, 5, 3, 0, 21, 0, 8, 7, 8, 7, 8, 22, 1, 6, 22)
+            .maps(1).add(31, I, 0, 0, 0, 0, 0, 0);
+        InstrumentFiles it = Samples.read(row, 1, CHECKS);
+        for (int times = 0; times < 4; times++) {
+            for (int n = 0; n <= 7; n++) {
+                CHECKS.same(n + 1 + " CALLS", it.call(0, n, 0, 0, 1000), 1);
+                CHECKS.same("result", it.result(), n % 2 == 0 ? 50 : 5 - 50);
+                CHECKS.same("told(4)", it.told(4), n + 1);
+            }
+            for (int n = 8; n <= 10; n++) {
+                CHECKS.same(n + 1 + " CALLS", it.call(0, n, 0, 0, 1000), 0);
+                CHECKS.same("told(0)", it.told(0), DEEP);
+            }
+        }
     }
 
     private static void deepOrSpent() {

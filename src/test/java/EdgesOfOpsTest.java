@@ -75,6 +75,9 @@ public final class EdgesOfOpsTest {
         InstrumentFiles sixth = read(FileRow.of(1).pool(1).word("a").methods(1).head(0, I, 6, 6, I, I)
             .code(3, 0, 4, 5, 3, 1, 4, 0, 3, 5, 5, 5, 5, 5, 5, 4, 4, 6, 6, 6, 3, 0, 8, 22).maps(0));
         gives("LOCAL 5 less the new LOCAL 0", sixth, 100, 3, 97);
+        InstrumentFiles popped = read(FileRow.of(1).pool(3).word("a").anInt(30).anInt(4).methods(1).head(0, I, 0, 3)
+            .code(1, 1, 1, 2, 5, 6, 8, 1, 2, 6, 22).maps(0));
+        gives("30 less 4: 6 pops what 5 and 1 have pushed", popped, 0, 0, 26);
     }
 
     private static void intsInTheirOrder() {
@@ -153,7 +156,7 @@ public final class EdgesOfOpsTest {
         double max = Double.MAX_VALUE;
         double least = Double.MIN_VALUE;
         double normal = Double.MIN_NORMAL;
-        double[][] pairs = {{0.0, 0.0}, {0.0, -0.0}, {-0.0, 0.0}, {-0.0, -0.0}, {1, 0.0}, {1, -0.0}, {-1, 0.0}, {1, 1},
+        double[][] pairs = {{0.0, max}, {-0.0, max}, {-1, -1}, {-7, -2}, {-7, 2}, {0.0, 0.0}, {0.0, -0.0}, {-0.0, 0.0}, {-0.0, -0.0}, {1, 0.0}, {1, -0.0}, {-1, 0.0}, {1, 1},
             {1, -1}, {max, max}, {max, -max}, {max, 0x1p970}, {max, 0x1p969}, {max, 0x1.8p969}, {-max, 0x1p970},
             {max, 2}, {max, 0.5}, {max, least}, {least, least}, {least, -least}, {least, 2}, {least, 0.5}, {least, 0.75},
             {normal, least}, {normal, 2}, {normal, 0.5}, {normal, 1 + 0x1p-52}, {normal, 1 - 0x1p-53}, {normal, -least},

@@ -28,6 +28,7 @@ public final class EdgesOfPromisesTest {
         readAnswers();
         readTheTapeStays();
         readNoFileThen();
+        readLeavesNothingOfTheFileBefore();
         fault();
         table();
         methodWhat();
@@ -325,6 +326,41 @@ public final class EdgesOfPromisesTest {
             CHECKS.same("the latest CALL is as it was", it.told(1), 4);
             CHECKS.same("and what it gave back", it.result(), 3);
         }
+    }
+
+    private static void readLeavesNothingOfTheFileBefore() {
+        CHECKS.about("Promise 7", "is read as a FILE, and judged");
+        FileRow large = FileRow.of(2).pool(4).word("a").word("b").aDouble(7).anInt(7).methods(2)
+            .head(0, D, 6, 6, D, I, D).code(0, 0, 0, 2, 2, 22).maps(3)
+            .add(0, D, I, D, 0, 0, 0, 0).add(1, D, I, D, 0, 0, 0, 0).add(2, D, I, D, 0, 0, 0, 0)
+            .head(1, I, 3, 1, I, I, I).code(3, 2, 22).maps(0);
+        FileRow small = FileRow.of(1).pool(2).word("b").anInt(5).methods(1).head(0, I, 6, 1).code(1, 1, 22).maps(0);
+        InstrumentFiles it = Samples.read(large, 2, CHECKS);
+        CHECKS.same("LOCAL 0 of the large one", it.kind(0, 0, -1), D);
+        it.wipe();
+        FileRow.feed(it, small.sealed());
+        CHECKS.same("read of the small one", it.read(), 1);
+        int[] due = {0, I, 6, 1, 3, 0, 0, 0, 0};
+        for (int what = 0; what <= 8; what++) {
+            CHECKS.same("method(0, " + what + ")", it.method(0, what), due[what]);
+        }
+        for (int l = 0; l < 6; l++) {
+            CHECKS.same("LOCAL " + l, it.kind(0, 0, -1 - l), 0);
+        }
+        CHECKS.same("no OP at its second place", it.kind(0, 1, 0), UNKNOWN);
+        CHECKS.same("no third entry", it.pool(2, 0), UNKNOWN);
+        CHECKS.same("no second METHOD", it.method(1, 0), UNKNOWN);
+        CHECKS.same("VERSION", it.count(3), 1);
+        CHECKS.same("call", it.call(0, 9, 9, 9, 9), 1);
+        CHECKS.same("result", it.result(), 5);
+        it.wipe();
+        FileRow.feed(it, FileRow.of(1).pool(1).word("b").methods(1).head(0, D, 6, 1).code(3, 0, 22).maps(0).sealed());
+        CHECKS.same("a LOCAL that the large one TAKES is nothing now", it.read(), -1000);
+        CHECKS.same("KIND", it.fault(), 16);
+        it.wipe();
+        FileRow.feed(it, FileRow.of(1).pool(1).word("a").methods(1).head(0, I, 0, 1).code(19, 1, 22).maps(0).sealed());
+        CHECKS.same("a MAP of the large one is none now", it.read(), -1000);
+        CHECKS.same("JUMP", it.fault(), 18);
     }
 
     private static void fault() {
