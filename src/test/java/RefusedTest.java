@@ -18,6 +18,7 @@ public final class RefusedTest {
     private static final int MOST_BYTES = 250;
 
     public static void main(String[] args) {
+        theFirstThatFits();
         feeding();
         altering();
         looking();
@@ -125,6 +126,21 @@ public final class RefusedTest {
         for (int i = Math.max(-1, length - MOST_BYTES); i <= length; i++) {
             CHECKS.same("at(" + i + ")" + after, it.at(i), other.at(i));
         }
+    }
+
+    /** Calls of which two answers, or three, would tell the truth. */
+    private static void theFirstThatFits() {
+        CHECKS.about("Terms 3", "the first that fits; nothing changes then: UNKNOWN (no such METHOD, entry, place), OUTSIDE "
+            + "(a number is not as told), STATE (as told), FULL.");
+        refused("feed: OUTSIDE, FULL", RefusedTest::full, it -> it.feed(-1, 9), OUTSIDE);
+        refused("alter: UNKNOWN, OUTSIDE", RefusedTest::full, it -> it.alter(500, 256), UNKNOWN);
+        refused("method: UNKNOWN, OUTSIDE", RefusedTest::lived, it -> it.method(5, 9), UNKNOWN);
+        refused("pool: UNKNOWN, OUTSIDE", RefusedTest::lived, it -> it.pool(6, 2), UNKNOWN);
+        refused("kind: UNKNOWN of the METHOD, OUTSIDE", RefusedTest::lived, it -> it.kind(5, 0, 6), UNKNOWN);
+        refused("kind: UNKNOWN of the place, OUTSIDE", RefusedTest::lived, it -> it.kind(0, 1, 6), UNKNOWN);
+        refused("call: UNKNOWN, OUTSIDE", RefusedTest::lived, it -> it.call(5, 0, 0, 0, 0), UNKNOWN);
+        refused("call: OUTSIDE, STATE", RefusedTest::lived, it -> it.call(0, 9, 1, 0, 1001), OUTSIDE);
+        refused("call: STATE, or else it would FAIL", RefusedTest::lived, it -> it.call(0, 9, 0, 0, 1000), STATE);
     }
 
     private static void feeding() {
