@@ -63,9 +63,8 @@ public final class RefusedTest {
 
     private static InstrumentFiles full() {
         InstrumentFiles it = lived();
-        int length = it.count(0);
-        while (length < 493) {
-            length = it.feed(0x5555555555555555L, Math.min(8, 493 - length));
+        for (int length = it.count(0); length < 493; length += 8) {
+            it.feed(0x5555555555555555L, Math.min(8, 493 - length));
         }
         CHECKS.same("THE TAPE is full", it.feed(0x66666666666666L, 7), 500);
         return it;
